@@ -31,6 +31,7 @@ public final class PromisesTest {
         passPlace();
         on();
         lasts();
+        lastsLong();
         teach();
         tell();
         see();
@@ -434,6 +435,11 @@ public final class PromisesTest {
             x.beach(i, true);
         }
         due("none", x.told(6), 0);
+        UrchinSchool y = with(0, 0, 0, 0, 0, 0, 0, 0, 0, 0, 0, 0);
+        for (int i = 0; i < 6; i++) {
+            y.learn(i, 1 << i + 2);
+        }
+        due("all six", y.told(6), 63);
     }
 
     private static void pass() {
@@ -603,6 +609,40 @@ public final class PromisesTest {
         y.lesson(2, 0);
         due("till another takes its room", y.lasts(1), 3);
         due("comes later only", y.lasts(0), 0);
+    }
+
+    /** A fact that is forgotten when others have come one by one, each at a tide of twenty: by 60 tides, and no fewer. */
+    private static UrchinSchool long60(int forgetsAt) {
+        UrchinSchool x = with(0, 0, 0, 0, 0, 0);
+        String others = "f=0&c<2&!t=9|f=1&c<3&!(c=2&t=8)|f=2&c<4&!(c=3&t=7)";
+        due("ledge", write(x, "pass 99;dull 9 p=0&(" + others + "|f=7&c=4&t=" + forgetsAt + ")"), 0);
+        x.lesson(3, 0);
+        x.lesson(2, 1);
+        x.lesson(1, 2);
+        return x;
+    }
+
+    private static void lastsLong() {
+        promise = 13;
+        UrchinSchool x = long60(9);
+        x.learn(0, 128);
+        due("behind 59", x.on(59, 10), 135);
+        due("behind 60", x.on(60, 10), 7);
+        due("60", x.lasts(7), 60);
+        UrchinSchool y = long60(0);
+        y.learn(0, 128);
+        due("61 are not looked at", y.lasts(7), -5);
+        promise = 15;
+        UrchinSchool z = long60(9);
+        z.beach(1, true);
+        due("-5 is greater than 60", z.tell(7), 2);
+        z.beach(2, true);
+        due("60", z.tell(7), 0);
+        promise = 19;
+        x.learn(2, 128);
+        x.beach(1, true);
+        due("one of two by 59", x.odds(7, 59, 1), 1);
+        due("one of two by 60", x.odds(7, 60, 0) * 10 + x.odds(7, 60, 1), 12);
     }
 
     private static void teach() {
@@ -1046,12 +1086,12 @@ public final class PromisesTest {
         x.pass(7);
         x.feed('x');
         x.ledge();
-        write(x, "keep 8;pass 1;dull 9 f=1");
+        write(x, "pass 1;keep 8;dull 9 f=1");
         x.act(0, 2, 5);
         due("how many", x.undo(), 2);
         Check.holds("promise 29: all is as the image", was.equals(all(x)));
         due("the trace stays", x.trace(0), 3);
-        write(x, "keep 7");
+        write(x, "pass 7;keep 7");
         x.pass(1);
         x.undo();
         due("the image stays", x.told(1), 3);
