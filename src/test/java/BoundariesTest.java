@@ -1,0 +1,13 @@
+/** The document's boundaries, sentence by sentence: too small, too large, empty, full, wrapping, refused. */
+public final class BoundariesTest {
+    private BoundariesTest() {
+    }
+
+    public static void main(String[] args) {
+        LedgeBoundaries.run();
+        UrchinBoundaries.run();
+        TideBoundaries.run();
+        Boundaries.end();
+        Check.end("BoundariesTest");
+    }
+}
