@@ -72,10 +72,10 @@ class Boundaries {
         return x.ledge();
     }
 
-    /** Lets tides go until the tide is told. */
+    /** Lets tides go until the tide is told; with few calls, as an object has but 512. */
     static void until(UrchinSchool x, int tide) {
-        for (int i = 0; i < 200 && x.told(0) < tide; i++) {
-            x.pass(Math.min(60, tide - x.told(0)));
+        for (int at = x.told(0); at < tide; at += 60) {
+            x.pass(Math.min(60, tide - at));
         }
     }
 
@@ -104,6 +104,29 @@ class Boundaries {
         type(x, "kee");
         x.image();
         x.act(0, 2, 11);
+        return x;
+    }
+
+    /** One in which all is at its most: nothing more can come. */
+    static UrchinSchool full() {
+        UrchinSchool x = with(6, 9, 6, 9, 6, 9, 4, 9, 4, 9, 4, 9);
+        for (int i = 0; i < 5; i++) {
+            write(x, "keep 9" + i + ";pass 9" + i);
+        }
+        for (int i = 0; i < 6; i++) {
+            x.learn(i, 255);
+            x.row(i, 3, 9);
+        }
+        for (int k = 0; k < 4; k++) {
+            x.lesson(k, 7);
+        }
+        type(x, "keep 1;keep 2;keep 3;keep 4;keep 5;keep 6;keep 7;keep 8;loud 99 p=99;pass 10"
+            + "                              ".substring(0, 24));
+        for (int i = 0; i < 8; i++) {
+            x.see(5, 12, 7, true);
+            x.plan(3, 57);
+            x.book(5, 255);
+        }
         return x;
     }
 

@@ -7,6 +7,11 @@ public final class BoundariesTest {
         LedgeBoundaries.run();
         UrchinBoundaries.run();
         TideBoundaries.run();
+        SeenBoundaries.run();
+        PlanBoundaries.run();
+        ActBoundaries.run();
+        ImageBoundaries.run();
+        RefusalBoundaries.run();
         Boundaries.end();
         Check.end("BoundariesTest");
     }

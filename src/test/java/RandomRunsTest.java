@@ -3,7 +3,8 @@ import java.util.Random;
 /** Runs of random calls, each asked of the class and of PlainSchool; seeds are fixed, so runs are always the same. */
 public final class RandomRunsTest {
     private static final int RUNS = 500;
-    private static final int CALLS = 512;
+    /** No group of calls begins behind these, so that none is the object's 513th: the largest makes twelve. */
+    private static final int CALLS = 500;
 
     private final Random random;
     private final int run;

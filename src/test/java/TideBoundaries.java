@@ -423,7 +423,7 @@ final class TideBoundaries extends Boundaries {
      * One that forgets fact 7 in the tide that has so many ahead of it from now: facts 0, 1, 2 come one by one, each
      * once the tides of ten that are told have gone.
      */
-    private static UrchinSchool forgets(int urchins, int forgetsAt) {
+    static UrchinSchool forgets(int urchins, int forgetsAt) {
         UrchinSchool x = plain(urchins);
         String others = "f=0&c<2&!t=9|f=1&c<3&!(c=2&t=8)|f=2&c<4&!(c=3&t=7)";
         write(x, "pass 99;dull 9 p=0&(" + others + "|f=7&c=4&t=" + forgetsAt + ")");
