@@ -24,7 +24,6 @@ public final class UrchinSchool {
 
     private static final int TAPE = 100;
     private static final int GREATEST_SIGN = 127;
-    private static final int LEDGES = 5;
 
     private static final int TIDES_AHEAD = 60;
     private static final int LAST_TIDE = 9999;

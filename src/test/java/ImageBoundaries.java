@@ -5,6 +5,7 @@ final class ImageBoundaries extends Boundaries {
         undo();
         none();
         allThatThereIs();
+        allOfEach();
         emptyImage();
         fullImage();
         butTheTrace();
@@ -119,6 +120,52 @@ final class ImageBoundaries extends Boundaries {
         x.plan(1, 1);
         x.book(-1, 0);
         x.book(0, 200);
+    }
+
+    /** Six told ones, all rows by hand, each otherwise than any other; by another number all is otherwise once more. */
+    private static void tellAll(UrchinSchool x, int number) {
+        for (int i = 0; i < 6; i++) {
+            x.urchin(6, (i + number) % 10);
+            x.learn(i, 40 * i + number);
+            for (int k = 0; k < 4; k++) {
+                x.row(i, k, (i + k + number) % 10);
+            }
+        }
+        x.see(-1, 0, 0, true);
+        for (int i = 0; i < 5; i++) {
+            x.see(5, 0, i, ((40 * 5 + number) >> i & 1) == 1);
+        }
+        x.plan(-1, 0);
+        x.book(-1, 0);
+        for (int i = 0; i < 8; i++) {
+            x.plan(3, 10 * (i % 6) + (i + number) % 8);
+            x.book(i % 6, 40 * (i % 6) + number);
+        }
+    }
+
+    private static void allOfEach() {
+        by(28, "THE IMAGE: all that there is (but THE IMAGE and THE TRACE).");
+        UrchinSchool x = new UrchinSchool();
+        x.image();
+        tellAll(x, 3);
+        x.undo();
+        tellAll(x, 1);
+        x.image();
+        int all = x.done(0);
+        int held = x.done(1);
+        tellAll(x, 5);
+        x.undo();
+        due("the plan's rows", x.done(0), all);
+        due("the plan's rows", x.done(1), held);
+        due("what is seen: the sets with the other three facts", x.knew(5, 0), 8);
+        due("what is seen", x.knew(5, 1), 201 & 31);
+        due("the book's rows", x.looked(), NOTHING);
+        for (int i = 0; i < 6; i++) {
+            due("v", x.of(i, 1), i + 1);
+            for (int k = 0; k < 4; k++) {
+                due("row", x.row(i, k, 0), (i + k + 1) % 10);
+            }
+        }
     }
 
     private static void emptyImage() {

@@ -387,6 +387,9 @@ final class LedgeBoundaries extends Boundaries {
         holds("p=0&p=0|p=1&p=1|p=2&p=2|p=3&p=3", "111100");
         holds("(p=0|p=1|p=2)&(p=2|p=3)|(p=4|p=5)&!(p=4)", "001001");
         holds("p=0|!(p=1|!(p=2|p>3))", "101011");
+        holds("p=0&!p<0", "100000");
+        holds("p<3&!(p<0|p=1)", "101000");
+        holds("!(p<0&p<0)&!(p>1|p<0)", "110000");
     }
 
     private static void tests() {
@@ -548,5 +551,8 @@ final class LedgeBoundaries extends Boundaries {
         due("by a fault none", y.told(1) * 100 + y.told(2), 406);
         write(y, "pass 2");
         due("none is left of a fault's", y.told(1) * 100 + y.told(2), 402);
+        write(y, "keep 9;pass 9;");
+        write(y, "keep 2");
+        due("none is left of a fault's", y.told(1) * 100 + y.told(2), 206);
     }
 }

@@ -76,9 +76,9 @@ final class PlanBoundaries extends Boundaries {
                 z.plan(-1, 0);
                 z.plan(3, 10 * i + fact);
                 done("fact " + fact + " to " + i, z, 1 << fact, 1);
+                z.plan(1, i);
+                done("to one that is out by now", z, 0, 0);
             }
-            z.plan(1, i);
-            done("one that is out", z, 0, 0);
         }
     }
 

@@ -5,6 +5,7 @@ final class TideBoundaries extends Boundaries {
         passRefusals();
         next();
         aheadOfIt();
+        heedOfEach();
         notOut();
         kept();
         taught();
@@ -14,6 +15,7 @@ final class TideBoundaries extends Boundaries {
         oneMore();
         on();
         onRefusals();
+        howAllIs();
         beyond();
         lasts();
         lastsLongest();
@@ -131,6 +133,42 @@ final class TideBoundaries extends Boundaries {
         learn(w, 2, 1);
         w.pass(1);
         knows("they pass on to one another", w, 1, 1);
+    }
+
+    private static void heedOfEach() {
+        by(11, "whose HEED is 0 or more;");
+        for (int i = 0; i < 6; i++) {
+            for (int fact = 0; fact < 9; fact++) {
+                UrchinSchool x = plain(6);
+                write(x, "keep 8;pass 99;dull 4 p=" + i);
+                for (int other = 0; other < 6; other++) {
+                    x.learn(other, 255 >> (other + fact) % 9);
+                }
+                x.pass(1);
+                for (int other = 0; other < 6; other++) {
+                    due("of " + other, x.of(other, 2), other == i ? 0 : 255 >> (other + fact) % 9);
+                }
+            }
+        }
+        for (int many = 0; many < 9; many++) {
+            UrchinSchool x = plain(6);
+            write(x, "keep 8;dull 4 c=" + many);
+            for (int other = 0; other < 6; other++) {
+                x.learn(other, 255 >> (8 - (other + many) % 9));
+            }
+            x.pass(1);
+            for (int other = 0; other < 6; other++) {
+                int knew = (other + many) % 9;
+                due("of " + knew + ", not of " + many, x.of(other, 2), knew == many ? 0 : 255 >> (8 - knew));
+            }
+        }
+        UrchinSchool y = with(4, 1, 0, 0);
+        write(y, "dull 9 f=0&t=1&p=0");
+        y.lesson(2, 1);
+        learn(y, 1, 1);
+        due("a monitor's once, where it was twice ten tides ahead", y.on(11, 10), 2);
+        y.pass(11);
+        knows("a monitor's once, where it was twice ten tides ahead:", y, 2, 3);
     }
 
     private static void notOut() {
@@ -383,6 +421,42 @@ final class TideBoundaries extends Boundaries {
             due("n " + n, x.on(n, 0), BAD);
             due("n " + n, x.on(n, 1), BAD);
             due("n " + n, x.on(n, 14), BAD);
+        }
+    }
+
+    private static void howAllIs() {
+        by(12, "goes on from how all is");
+        UrchinSchool x = with(1, 1, 1, 2, 4, 3, 4, 4, 5, 5, 5, 9);
+        write(x, "keep 8;pass 99;dull 7 f=0;dull 6 f=1;dull 5 f=2;dull 4 f=3;dull 11 f=4;dull 16 f=5");
+        for (int i = 0; i < 6; i++) {
+            x.learn(i, 255);
+        }
+        int[] v = {0xc8, 0xcc, 0xce, 0xcf, 0xdf, 0xff};
+        for (int i = 0; i < 6; i++) {
+            due("by the v of " + i, x.on(1, 10 + i), v[i]);
+        }
+        UrchinSchool y = with(6, 0, 6, 0, 6, 0, 6, 0, 6, 0, 6, 0);
+        for (int i = 0; i < 6; i++) {
+            y.row(i, i % 4, 9);
+            y.row(i, (i + 1) % 4, 2);
+            y.learn(i, 15);
+        }
+        for (int i = 0; i < 6; i++) {
+            due("by the row of " + i, y.on(1, 10 + i), 1 << i % 4);
+        }
+        UrchinSchool z = with(0, 0, 1, 0, 2, 0, 3, 0, 4, 0, 5, 0);
+        write(z, "keep 8;pass 99;dull 4 f=0;dull 5 f=1;dull 3 f=2");
+        for (int i = 0; i < 6; i++) {
+            z.learn(i, 7);
+        }
+        int[] kind = {4, 4, 5, 0, 4, 5};
+        for (int i = 0; i < 6; i++) {
+            due("by the kind of " + i, z.on(1, 10 + i), kind[i]);
+        }
+        for (int i = 0; i < 6; i++) {
+            z.beach(i, true);
+            due("of " + i + " that is out", z.on(9, 10 + i), 7);
+            z.beach(i, false);
         }
     }
 
