@@ -55,7 +55,7 @@ public final class UrchinSchool {
         if (sign < 0 || sign > GREATEST_SIGN) {
             return BAD;
         }
-        if (now.signs >= now.tape.length) {
+        if (now.signs < 0 || now.signs >= now.tape.length) {
             return FULL;
         }
         now.tape[now.signs] = (byte) sign;
